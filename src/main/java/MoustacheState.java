@@ -99,8 +99,8 @@ public final class MoustacheState {
 
     private final Tray[] trays = new Tray[MOST_TRAYS];
     private final Text text = new Text();
-    private final StateReader stateReader = new StateReader(text);
-    private final ReignsReader reignsReader = new ReignsReader(text);
+    private final StateReader stateReader = new StateReader();
+    private final ReignsReader reignsReader = new ReignsReader();
     private final Realm[] markedRealms = new Realm[MOST_MARKS];
     private final Reigns[] markedReigns = new Reigns[MOST_MARKS];
     private final Game play = new Game();
@@ -215,7 +215,7 @@ public final class MoustacheState {
             return refuse(BAD_NUMBER);
         }
         text.begin(n);
-        if (!stateReader.readState(spareRealm)) {
+        if (!stateReader.readState(text, spareRealm)) {
             return refuse(FAULTY);
         }
         Realm old = realm;
@@ -230,7 +230,7 @@ public final class MoustacheState {
             return refuse(BAD_NUMBER);
         }
         text.begin(n);
-        if (!reignsReader.readReigns(spareProgram, realm.names)) {
+        if (!reignsReader.readReigns(text, spareProgram, realm.names)) {
             return refuse(FAULTY);
         }
         Reigns old = program;
@@ -1513,17 +1513,14 @@ public final class MoustacheState {
 
     /** Reads the text of a STATE. */
     private static final class StateReader {
-        private final Text text;
+        private Text text;
         private Realm realm;
         private boolean oddsTold;
         private boolean greysTold;
 
-        StateReader(Text text) {
-            this.text = text;
-        }
-
         /** What stands in the realm is of no use behind a FAULT. */
-        boolean readState(Realm into) {
+        boolean readState(Text from, Realm into) {
+            text = from;
             realm = into;
             realm.clear();
             oddsTold = false;
@@ -1768,19 +1765,16 @@ public final class MoustacheState {
 
     /** Reads the text of REIGNS. */
     private static final class ReignsReader {
-        private final Text text;
+        private Text text;
         // Where the beginnings stand whose ends are still to come.
         private final int[] open = new int[MOST_DEPTH];
         private Reigns reigns;
         private Names names;
         private int depth;
 
-        ReignsReader(Text text) {
-            this.text = text;
-        }
-
         /** What stands in the REIGNS is of no use behind a FAULT. */
-        boolean readReigns(Reigns into, Names known) {
+        boolean readReigns(Text from, Reigns into, Names known) {
+            text = from;
             reigns = into;
             names = known;
             depth = 0;

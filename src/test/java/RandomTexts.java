@@ -25,7 +25,7 @@ final class RandomTexts {
             b.append((char) ('a' + n % 26));
             n /= 26;
         } while (n > 0);
-        while (random.nextInt(3) == 0 && b.length() < 7) {
+        while (random.nextInt(9) == 0 && b.length() < 7) {
             b.append('q');
         }
         return b.append('z').toString();
@@ -39,7 +39,8 @@ final class RandomTexts {
     String state() {
         hairs.clear();
         looks.clear();
-        names = random.nextInt(300);
+        // NAMES of an earlier STATE come again, often of other things.
+        names = random.nextInt(4) * 20;
         StringBuilder b = new StringBuilder();
         if (random.nextBoolean()) {
             b.append("odds").append(blank()).append(random.nextInt(17)).append(";");

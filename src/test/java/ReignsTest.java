@@ -35,6 +35,10 @@ public final class ReignsTest {
         account("trims, votes", y, 0, 8, 5, 0, 1 + 8 + 7, 1, 0);
         Checks.due("58: all is as it is then", y.many(14), 10 + 12 + 29);
         account("once more", y, 0, 8, 8, 0, 0, 0, 0);
+        String even = "hair a length 10;party p seats 5 wants 0;party q seats ";
+        account("a vote with as many against it", Checks.of(even + "5 wants 20;", "vote a 5;"), 0, 1, 1, 0, 0, 0, 0);
+        account("a vote by one more", Checks.of(even + "4 wants 20;", "vote a 5;"), 0, 1, 0, 0, 5, 1, 0);
+        account("a vote without PARTIES", Checks.of("hair a length 10;", "vote a 5;"), 0, 1, 1, 0, 0, 0, 0);
         MoustacheState none = Checks.of(Checks.SAMPLE, "");
         account("no STEPS", none, 0, 0, 0, 0, 0, 0, 0);
     }
@@ -211,7 +215,23 @@ public final class ReignsTest {
         y.back();
         Checks.due("62: all is taken back", tellOf(y), first);
         Checks.refuses("61: a fourth", ReignsTest::marked, MoustacheState::mark, 7);
+        keepsNames();
         keeps();
+    }
+
+    private static void keepsNames() {
+        MoustacheState x = Checks.sample();
+        x.mark();
+        Checks.state(x, "look right;hair proud length 3;barber mid;barber odd;hair tip length 4;");
+        x.back();
+        Checks.gives("62: all NAMES", x, Checks.reigns(x, "wax right 3; when shows odd; end; wax mid 2;"), 3);
+        x.live(0);
+        Checks.due("62: of what they were", x.hair(3, 3) * 10 + x.hair(2, 3), 32);
+        x.mark();
+        Checks.state(x, Checks.SAMPLE + "barber one;barber two;");
+        x.back();
+        Checks.reigns(x, "wax one 3;");
+        Checks.due("62: no others", x.fault(0), 3);
     }
 
     /** What no MARK keeps. */

@@ -59,6 +59,10 @@ public final class TextsTest {
     }
 
     private static void stateReplaces() {
+        MoustacheState same = new MoustacheState();
+        for (int i = 0; i < 4; i++) {
+            Checks.gives("10: the same NAMES in another STATE", same, Checks.state(same, Checks.SAMPLE), 4);
+        }
         MoustacheState x = Checks.busy();
         x.peace(false);
         x.hand();
