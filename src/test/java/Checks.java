@@ -1,4 +1,8 @@
 import java.nio.charset.StandardCharsets;
+import java.util.Map;
+import java.util.Set;
+import java.util.TreeMap;
+import java.util.TreeSet;
 
 /** What the tests share: texts for the tape, answers that are due, and all that an object tells of itself. */
 final class Checks {
@@ -12,6 +16,8 @@ final class Checks {
 
     private static int wrong = 0;
     private static int asked = 0;
+    // By promise, each STATUS with which a call of it was refused.
+    private static final Map<Integer, Set<Integer>> MET = new TreeMap<>();
 
     interface Maker {
         MoustacheState make();
@@ -65,8 +71,20 @@ final class Checks {
         due(what + " then bottom()", x.bottom(), bottom);
     }
 
+    /** What is told begins with the promises' numbers, up to a colon. */
+    static void meets(String what, int status) {
+        for (String promise : what.substring(0, what.indexOf(':')).split(", ")) {
+            MET.computeIfAbsent(Integer.valueOf(promise), p -> new TreeSet<>()).add(status);
+        }
+    }
+
+    static Set<Integer> met(int promise) {
+        return MET.getOrDefault(promise, new TreeSet<>());
+    }
+
     /** The call gives NONE with that STATUS, and nothing else is changed by it. */
     static void refuses(String what, Maker maker, IntCall call, int status) {
+        meets(what, status);
         MoustacheState x = maker.make();
         due(what, call.on(x), MoustacheState.NONE);
         due(what + " then status()", x.status(), status);
@@ -74,6 +92,7 @@ final class Checks {
     }
 
     static void denies(String what, Maker maker, BooleanCall call, int status) {
+        meets(what, status);
         MoustacheState x = maker.make();
         due(what, call.on(x), false);
         due(what + " then status()", x.status(), status);
@@ -157,7 +176,7 @@ final class Checks {
         tellState(x, all);
         for (int tray = 0; tray < 4; tray++) {
             all.append("\n  tray");
-            for (int place = 0; place < 5; place++) {
+            for (int place : new int[] {0, 1, 2, 3, 4, 59}) {
                 long v = x.read(tray, place);
                 all.append(x.status() == 0 ? " " + v : " -" + x.status());
             }
@@ -183,27 +202,29 @@ final class Checks {
     }
 
     private static void tellState(MoustacheState x, StringBuilder all) {
+        int[] many = new int[16];
         all.append("\n  many");
         for (int what = 0; what < 16; what++) {
-            all.append(' ').append(x.many(what));
+            many[what] = x.many(what);
+            all.append(' ').append(many[what]);
         }
         all.append(" ruler ").append(x.ruler());
-        for (int h = 0; h < x.many(0); h++) {
+        for (int h = 0; h < many[0]; h++) {
             all.append(" hair");
             for (int what = 0; what < 4; what++) {
                 all.append(' ').append(x.hair(h, what));
             }
-            for (int look = 0; look < x.many(3); look++) {
+            for (int look = 0; look < many[3]; look++) {
                 all.append(' ').append(x.look(look, h));
             }
         }
-        for (int p = 0; p < x.many(1); p++) {
+        for (int p = 0; p < many[1]; p++) {
             all.append(" party ").append(x.party(p, 0)).append(' ').append(x.party(p, 1));
         }
-        for (int p = 0; p < x.many(5); p++) {
+        for (int p = 0; p < many[5]; p++) {
             all.append(" pair ").append(x.pair(p, 0)).append(' ').append(x.pair(p, 1));
         }
-        for (int r = 0; r < x.many(2); r++) {
+        for (int r = 0; r < many[2]; r++) {
             all.append(" lip ").append(x.lip(r));
         }
     }
