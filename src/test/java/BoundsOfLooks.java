@@ -19,6 +19,7 @@ final class BoundsOfLooks {
         longIn();
         evenIn();
         greyIn();
+        aheadOfLastDay();
         nothingGoesBy();
     }
 
@@ -260,6 +261,25 @@ final class BoundsOfLooks {
         MoustacheState eight = Checks.of("greys 99;" + Bounds.FULL.substring(16, Bounds.FULL.indexOf("party")));
         Checks.gives("43: the eighth of 999 by 99", eight, eight.greyIn(999), 8);
         Checks.gives("43: six of 395 by 99", eight, eight.greyIn(395), 6);
+    }
+
+    /** DAY 9,999 does not matter to what is told of DAYS ahead. */
+    private static void aheadOfLastDay() {
+        MoustacheState x = Bounds.onLastDay("hair a length 1;hair b length 1;look l up flat;");
+        x.trim(0, 0);
+        x.comb(0, 0);
+        Checks.gives("39: lengthIn()", x, x.lengthIn(0, 98), 98);
+        Checks.gives("40: standsIn()", x, x.standsIn(0, 1), 1);
+        Checks.gives("41: longIn()", x, x.longIn(0, 99), 99);
+        Checks.gives("42: evenIn()", x, x.evenIn(), 2);
+        Checks.gives("37: within()", x, x.within(1), 2 + 2 - 1);
+        Checks.gives("36: reach()", x, x.reach(0), 2 + 1);
+        x.tray(0, 1, 2);
+        x.write(0, 0, 98);
+        x.write(0, 1, 98);
+        Checks.gives("50: seen()", x, x.seen(0, 1), 1);
+        Checks.gives("54: game()", x, x.game(2), 1 - 2);
+        Checks.gives("13: it is DAY 9,999 still", x, x.many(8), 9999);
     }
 
     /** What is told of DAYS ahead changes nothing. */

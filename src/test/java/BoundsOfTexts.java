@@ -10,6 +10,7 @@ final class BoundsOfTexts {
         bytesOfFeed();
         howManyBytes();
         longestTexts();
+        cutTexts();
         eachByte();
         numbersOfStates();
         numbersOfReigns();
@@ -100,6 +101,42 @@ final class BoundsOfTexts {
         fault(new MoustacheState(), ";".repeat(900), true, 2, 0);
         fault(new MoustacheState(), "a".repeat(900), true, 2, 0);
         fault(new MoustacheState(), "1".repeat(900), true, 1, 0);
+    }
+
+    /** A text that ends at any of its bytes, with the others behind it on the tape. */
+    private static void cutTexts() {
+        for (int n = 0; n <= Bounds.FULL.length(); n++) {
+            MoustacheState x = new MoustacheState();
+            Checks.tape(x, Bounds.FULL);
+            cut(x, Bounds.FULL.substring(0, n), true);
+        }
+        for (int n = 0; n <= Bounds.FULL_REIGNS.length(); n++) {
+            MoustacheState x = Checks.of(Bounds.FULL);
+            Checks.tape(x, Bounds.FULL_REIGNS);
+            cut(x, Bounds.FULL_REIGNS.substring(0, n), false);
+        }
+    }
+
+    private static void cut(MoustacheState x, String text, boolean ofState) {
+        int due = -1;
+        int kind = 0;
+        int place = -1;
+        ModelTexts model = new ModelTexts(text);
+        try {
+            if (ofState) {
+                due = model.state().hairs.size();
+            } else {
+                model.reigns(new ModelTexts(Bounds.FULL).state().names);
+                due = model.steps;
+            }
+        } catch (ModelTexts.Fault f) {
+            kind = f.kind;
+            place = f.place;
+        }
+        int n = text.length();
+        Checks.due((ofState ? "10" : "11") + ": the first " + n + " bytes", ofState ? x.state(n) : x.reigns(n), due);
+        Checks.due("12: the FAULT of the first " + n + " bytes", x.fault(0), kind);
+        Checks.due("12: its place in the first " + n + " bytes", x.fault(1), place);
     }
 
     private static void fault(MoustacheState x, String text, boolean ofState, int kind, int place) {
