@@ -20,6 +20,7 @@ final class BoundsOfTexts {
         sets();
         pairs();
         without();
+        numbered();
         first();
         stateTaken();
         namesInReigns();
@@ -403,6 +404,24 @@ final class BoundsOfTexts {
         stateFault("hair a length 7 either;", 2, 16);
         stateFault("hair a length 7 up up;", 2, 19);
         stateFault("hair a grows 1 length 7;", 2, 7);
+    }
+
+    /** As they stand, each kind by itself, whatever stands between them. */
+    private static void numbered() {
+        MoustacheState x = Checks.of("barber z;look l;hair y length 1;party p seats 7 wants 8;ruler q lip 5;barber b;pair b z;hair a length 2;"
+                + "look k down up;ruler c lip 6;party o seats 9 wants 4;odds 1;barber m;hair x length 3;pair m b;greys 3;");
+        for (int i = 0; i < 3; i++) {
+            Checks.gives("10: HAIR " + i, x, x.hair(i, 0), i + 1);
+        }
+        Checks.gives("10: PARTY 0", x, x.party(0, 0) * 10 + x.party(0, 1), 78);
+        Checks.gives("10: PARTY 1", x, x.party(1, 0) * 10 + x.party(1, 1), 94);
+        Checks.gives("10: RULER 0", x, x.lip(0), 5);
+        Checks.gives("10: RULER 1", x, x.lip(1), 6);
+        Checks.gives("10: LOOK 0", x, x.look(0, 0) * 100 + x.look(0, 1) * 10 + x.look(0, 2), 333);
+        Checks.gives("10: LOOK 1", x, x.look(1, 0) * 100 + x.look(1, 1) * 10 + x.look(1, 2), 23);
+        Checks.gives("10: PAIR 0", x, x.pair(0, 0) * 10 + x.pair(0, 1), 10);
+        Checks.gives("10: PAIR 1", x, x.pair(1, 0) * 10 + x.pair(1, 1), 21);
+        Checks.gives("10: RULER 0 rules", x, x.ruler(), 0);
     }
 
     /** The first along the text, whatever its kind. */
